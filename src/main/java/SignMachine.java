@@ -275,7 +275,6 @@ public final class SignMachine {
         private static final int REGISTERS = 9;
         private static final int TIME_MASK = (1 << 30) - 1;
         private static final int AX_BITS = 60, AX_BYTES = 10;
-        private static final long AX_MASK = (1L << AX_BITS) - 1;
         private static final int CODE_OF_ZERO = 30;
 
         private final int[] memory = new int[WORDS];
@@ -423,13 +422,11 @@ public final class SignMachine {
             if (!isIndex(code & 7)) {
                 return true;
             }
-            if (code >= 8 && code <= 23) {
-                return Word.size(value()) <= Word.GREATEST_SHORT;
+            switch (code >> 3) {
+                case 1: case 2: return Word.size(value()) <= Word.GREATEST_SHORT;
+                case 6: return Math.abs(numberByAddress()) <= Word.GREATEST_SHORT;
+                default: return true;
             }
-            if (code >= 48 && code <= 55) {
-                return Math.abs(numberByAddress()) <= Word.GREATEST_SHORT;
-            }
-            return true;
         }
 
         private boolean blockCanBe() {
@@ -513,6 +510,7 @@ public final class SignMachine {
             return (long) Word.size(register(A)) << 30 | Word.size(register(X));
         }
 
+        /** Signs stay; what is beyond ten bytes is lost. */
         private void putSizesOfAX(long size) {
             int high = (int) (size >> 30) & Word.GREATEST;
             int low = (int) size & Word.GREATEST;
@@ -524,9 +522,8 @@ public final class SignMachine {
             int a = register(A);
             long product = (long) Word.size(a) * Word.size(factor);
             int sign = Word.sign(a) ^ Word.sign(factor);
-            putRegister(A, Word.make(sign, 0));
-            putRegister(X, Word.make(sign, 0));
-            putSizesOfAX(product);
+            putRegister(A, Word.make(sign, (int) (product >> 30)));
+            putRegister(X, Word.make(sign, (int) product & Word.GREATEST));
         }
 
         private void divide(int divisor) {
@@ -589,7 +586,7 @@ public final class SignMachine {
                 case 4: both = both << around | both >> AX_BITS - around; break;
                 default: both = both >> around | both << AX_BITS - around; break;
             }
-            putSizesOfAX(both & AX_MASK);
+            putSizesOfAX(both);
         }
 
         private void moveWords() {
@@ -781,8 +778,6 @@ public final class SignMachine {
 
         void begin() {
             line = 0;
-            at = 0;
-            stop = 0;
             following = 0;
         }
 
@@ -1089,8 +1084,6 @@ public final class SignMachine {
             output.clear();
             fault = 0;
             faultLine = 0;
-            firstFree = BAD;
-            start = 0;
             place = 0;
             ended = false;
         }

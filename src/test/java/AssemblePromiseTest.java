@@ -29,6 +29,8 @@ public final class AssemblePromiseTest {
         noEnd();
         firstFault();
         faultsChangeNothing();
+        textsOneAfterAnother();
+        longest();
         aProgram();
         Check.end();
     }
@@ -340,6 +342,8 @@ public final class AssemblePromiseTest {
         badLine("1B NOP", 3);
         badLine("0F NOP", 3);
         badLine("9B FOO", 3);
+        badLine("0B NOP", 3);
+        badLine("9F NOP", 3);
         badLine("1B$ NOP", 1);
         badLine("1B EQU 5", 3);
         badLine("A\tNOP", 1);
@@ -421,6 +425,8 @@ public final class AssemblePromiseTest {
         bad(" NOP\n JMP 2F\n JMP 1F\n2H NOP\n LDA Y\nY EQU 5000" + END, 3, 3);
         bad(" JMP 1F\n LDA Y\nY EQU 5000\n FOO" + END, 2, 4);
         bad(" JMP 1F\n LDA $" + END, 1, 2);
+        bad("Y EQU 5000\n LDA Y\n FOO" + END, 4, 2);
+        bad("1H EQU 5000\n LDA 1B\n FOO" + END, 4, 2);
         bad(" JMP 1F\n NOP", 6, 2);
         bad(" JMP 1F\n END 4000", 4, 2);
         bad(" ORIG 3999\n JMP 1F\n END L", 3, 3);
@@ -515,6 +521,52 @@ public final class AssemblePromiseTest {
             }
             Rig.dueMem("fault", x, 3999, 0, 0);
         }
+    }
+
+    /** Nothing of a text is left for the next one. */
+    private static void textsOneAfterAnother() {
+        SignMachine x = new SignMachine();
+        String text = symbolLines(0, 35, "# NOP") + symbolLines(0, 25, " LDA =1=") + "0H JMP 0F\n0H NOP\n9H JMP 9F\n9H END 9B-40";
+        for (int turn = 0; turn < 3; turn++) {
+            Check.due("good", Rig.assemble(x, text), 0);
+            Check.due("about(1)", x.about(1), 63);
+            Check.due("STARTS", x.state(0), 22);
+            Rig.dueMem("the first LITERAL", x, 35, 0, instruction(63, 0, 5, 8));
+            Rig.dueMem("JMP 9F", x, 62, 0, instruction(63, 0, 0, 39));
+            Rig.mem(x, 0, -1);
+            Rig.mem(x, 35, -2);
+            Rig.mem(x, 87, -3);
+        }
+        Check.due("good", Rig.assemble(x, " ORIG 50\nS0 CON 5\n LDA S1\n END S0"), 0);
+        Rig.dueMem("CON", x, 50, 0, 5);
+        Rig.dueMem("a name of a text before", x, 51, 0, instruction(52, 0, 5, 8));
+        Rig.dueMem("a word of a text before does not come again", x, 0, 1, 1);
+        Rig.dueMem("a word of a text before does not come again", x, 35, 1, 2);
+        Rig.dueMem("a LITERAL of a text before does not come again", x, 87, 1, 3);
+        Check.due("0B of a text before", Rig.assemble(x, " LDA 0B" + END), 3);
+        Check.due("9B of a text before", Rig.assemble(x, " LDA 9B" + END), 3);
+        Check.due("0F of a text before", Rig.assemble(x, " LDA 0F" + END), 3);
+        Check.due("good", Rig.assemble(x, " CON 7" + END), 0);
+        Rig.dueMem("the PLACE starts at 0", x, 0, 0, 7);
+        Check.due("about(1)", x.about(1), 1);
+        Check.due("STARTS", x.state(0), 0);
+        Check.due("line 1 again", Rig.assemble(x, " FOO"), 2);
+        Check.due("line 1 again", x.about(0), 1);
+    }
+
+    /** As many words as a text can have. */
+    private static void longest() {
+        SignMachine x = good(" IN\n".repeat(998) + " END 7", 990, 36, 36, 36, 36, 36, 36, 36, 36, 0);
+        Check.due("about(1)", x.about(1), 998);
+        String locals = " IN 1F\n".repeat(500);
+        good(locals + "1H NOP" + END, 0, instruction(500, 0, 0, 36), instruction(500, 0, 0, 36));
+        x = good(locals + "1H NOP" + END, 499, instruction(500, 0, 0, 36), 0);
+        Check.due("about(1)", x.about(1), 501);
+        good(" CON 1" + "+1".repeat(1900) + END, 0, 1901);
+        good(" CON 1" + ",1".repeat(1900) + END, 0, 1);
+        good(" ".repeat(3900) + "CON" + " ".repeat(50) + "9" + END, 0, 9);
+        bad("A".repeat(3990) + END, 1, 1);
+        bad(" " + "A".repeat(3980) + END, 2, 1);
     }
 
     /** The table of the first primes, as the books have it: 2, 3, 5, 7, .. come into 1000 on. */

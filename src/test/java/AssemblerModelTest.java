@@ -174,7 +174,7 @@ public final class AssemblerModelTest {
 
     private int test() {
         String text = chance(40) ? longText() : text();
-        if (chance(4)) {
+        for (int i = 0; i < 30 && chance(i == 0 ? 4 : 2); i++) {
             text = spoil(text);
         }
         AssemblerModel model = new AssemblerModel(text);

@@ -21,7 +21,10 @@ public final class TextPromiseTest {
         Check.due("end(19)", x.end(19), 3999);
         Check.due("feed beyond 4,000", x.feed(1, 2, 3, 4, 5), -1);
         Check.due("bytes", x.about(2), 3999);
-        Check.due("end(1)", x.end(1), 3980);
+        Check.due("end(2)", x.end(2), 3981);
+        Check.due("feed beyond 4,000", x.feed(1, 2, 3, 4, 5), -1);
+        Check.due("bytes", x.about(2), 3981);
+        Check.due("end(19)", x.end(19), 3980);
         Check.due("feed", x.feed(1, 2, 3, 4, 5), 4000);
     }
 
