@@ -546,6 +546,7 @@ public final class AssemblePromiseTest {
         Check.due("0B of a text before", Rig.assemble(x, " LDA 0B" + END), 3);
         Check.due("9B of a text before", Rig.assemble(x, " LDA 9B" + END), 3);
         Check.due("0F of a text before", Rig.assemble(x, " LDA 0F" + END), 3);
+        Check.due("an open address of a text before", Rig.assemble(x, " END 0"), 0);
         Check.due("good", Rig.assemble(x, " CON 7" + END), 0);
         Rig.dueMem("the PLACE starts at 0", x, 0, 0, 7);
         Check.due("about(1)", x.about(1), 1);
