@@ -104,6 +104,7 @@ public final class RunPromiseTest {
 
     /** 437 runs of a program that moves 63 words with nearly each instruction take more than 2 to the 30th. */
     private static void timeComesAround() {
+        Check.sentence("3 TIME (modulo 2 to the 30th)");
         SignMachine x = new SignMachine();
         Rig.put(x, 0, 100, 0, 2, 49);
         Rig.put(x, 1, 0, 0, 63, 7);
@@ -123,6 +124,9 @@ public final class RunPromiseTest {
             int rest = (inLoop + 20000) % 63;
             time += loops * 7749L + timeOf(rest) - timeOf(inLoop);
             inLoop = rest;
+            if (i % 50 == 0 || i >= 430) {
+                Check.due("time modulo 2 to the 30th", x.state(3), time % (1 << 30));
+            }
         }
         Check.due("more than 2 to the 30th", time > 1 << 30, true);
         Check.due("time modulo 2 to the 30th", x.state(3), time % (1 << 30));

@@ -2,8 +2,14 @@
 final class Check {
     private static int asked = 0;
     private static int wrong = 0;
+    private static String sentence = "";
 
     private Check() {
+    }
+
+    /** What follows tests this sentence of the document: it is told with each answer that is not as due. */
+    static void sentence(String words) {
+        sentence = "\"" + words + "\": ";
     }
 
     static void due(String what, long got, long want) {
@@ -11,7 +17,7 @@ final class Check {
         if (got != want) {
             wrong++;
             if (wrong <= 40) {
-                System.out.println(what + " answered " + got + ", due is " + want);
+                System.out.println(sentence + what + " answered " + got + ", due is " + want);
             }
         }
     }
@@ -23,7 +29,7 @@ final class Check {
     static void fail(String what) {
         asked++;
         wrong++;
-        System.out.println(what);
+        System.out.println(sentence + what);
     }
 
     static void end() {
